@@ -12,7 +12,8 @@ import java.util.regex.Pattern;
 
 /**
  * Compares every call with a plain model, which says the document's terms over again with texts and
- * sets and shares no thought with the class: a text's fault by looking at each of its beginnings, atoms
+ * sets and shares no code with the class (but the same reading of the document, so a misreading would
+ * show in neither): a text's fault by looking at each of its beginnings, atoms
  * and literals as texts, tables one by one in their order.
  */
 public final class ModelTests {
