@@ -25,10 +25,12 @@ public final class ModelTests {
     private static int wrong = 0;
     private static int sentences = 0;
     private static int faults = 0;
+    /** Calls on the object that is asked: each answer is looked at once. */
+    private static int calls = 0;
 
     public static void main(String[] args) {
         Random random = new Random(20261115);
-        for (int run = 0; run < 1500; run++) {
+        for (int run = 0; run < 2000; run++) {
             runOnOneObject(random);
         }
         System.out.println(sentences + " sentences, " + faults + " faults, " + wrong + " answers not as due");
@@ -39,9 +41,10 @@ public final class ModelTests {
 
     private static void runOnOneObject(Random random) {
         HerbrandTables t = new HerbrandTables();
+        calls = 0;
         Model model = null;
         String text = "";
-        for (int turn = 0; turn < 4; turn++) {
+        for (int turn = 0; turn < 3; turn++) {
             String more = random.nextInt(3) == 0 ? spoil(someText(random), random) : someText(random);
             if (random.nextInt(4) != 0) {
                 due(text, "erase", t.erase(), text.length());
@@ -67,6 +70,10 @@ public final class ModelTests {
             } else {
                 compareWithNoSentence(t, text);
             }
+        }
+        // Nothing is promised after the 512th call, so nothing may be asked then.
+        if (calls > 512) {
+            throw new IllegalStateException(calls + " calls on one object");
         }
     }
 
@@ -104,13 +111,16 @@ public final class ModelTests {
         due(text, "clauses", t.clauses(), model.clauses.size());
         due(text, "atoms", t.atoms(), model.atoms.size());
         due(text, "instances", t.instances(), model.instances.size());
-        for (int p = -1; p <= 4; p++) {
-            for (int one = -1; one <= 3; one++) {
-                for (int two = -1; two <= 3; two++) {
-                    due(text, "atom " + p + " " + one + " " + two, t.atom(p, one, two), model.atom(p, one, two));
+        for (int p = 0; p <= 3; p++) {
+            for (int one = 0; one <= 2; one++) {
+                for (int two = 0; two <= 2; two++) {
+                    compareAtom(t, model, p, one, two);
                 }
             }
+            compareAtom(t, model, p, random.nextInt(), random.nextInt(3));
+            compareAtom(t, model, p, random.nextInt(3), random.nextInt());
         }
+        compareAtom(t, model, random.nextInt(), 0, 0);
         int all = (1 << model.clauses.size()) - 1;
         List<String> found = model.tablesOf(all);
         due(text, "holds", t.holds() ? 1 : 0, found.isEmpty() ? 0 : 1);
@@ -137,6 +147,11 @@ public final class ModelTests {
         if (least != 0) {
             due(text, "core " + least, answer(() -> t.core(least) ? 1 : 0), 1);
         }
+    }
+
+    private static void compareAtom(HerbrandTables t, Model model, int predicate, int one, int two) {
+        String call = "atom " + predicate + " " + one + " " + two;
+        due(model.text, call, t.atom(predicate, one, two), model.atom(predicate, one, two));
     }
 
     private static int faultOf(String text) {
@@ -442,6 +457,7 @@ public final class ModelTests {
     }
 
     private static void due(String text, String call, long got, long want) {
+        calls++;
         if (got != want) {
             wrong++;
             if (wrong < 50) {

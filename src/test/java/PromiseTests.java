@@ -1,19 +1,5 @@
-import java.util.NoSuchElementException;
-
 /** One method for each promise of the document: ordinary inputs, the named edges, wrong inputs. */
-public final class PromiseTests {
-    private static final long ILLEGAL_ARGUMENT = -1001;
-    private static final long ILLEGAL_STATE = -1002;
-    private static final long OUT_OF_BOUNDS = -1003;
-    private static final long NO_ELEMENT = -1004;
-    private static final long OTHER = -1005;
-
-    private static int wrong = 0;
-
-    private interface Call {
-        long answer();
-    }
-
+public final class PromiseTests extends Checks {
     public static void main(String[] args) {
         promise1NewObject();
         promise2Type();
@@ -36,10 +22,7 @@ public final class PromiseTests {
         promise15Forced();
         promise16Without();
         promise17Core();
-        System.out.println(wrong == 0 ? "all promises hold" : wrong + " answers are not as due");
-        if (wrong != 0) {
-            System.exit(1);
-        }
+        end();
     }
 
     private static void promise1NewObject() {
@@ -283,7 +266,7 @@ public final class PromiseTests {
 
     private static void promise12Tables() {
         HerbrandTables t = new HerbrandTables();
-        due("12 no sentence", call(() -> t.tables()), ILLEGAL_STATE);
+        due("12 no sentence", tables(t), ILLEGAL_STATE);
         due("12 none", sentence("P&-P").tables(), 0);
         due("12 one atom", sentence("P|-P").tables(), 2);
         due("12 five atoms", sentence("Pa|Pb|Qab&Pa|-Pa").tables(), 56);
@@ -294,9 +277,9 @@ public final class PromiseTests {
 
     private static void promise13Least() {
         HerbrandTables t = new HerbrandTables();
-        due("13 no sentence", call(() -> t.least()), ILLEGAL_STATE);
+        due("13 no sentence", least(t), ILLEGAL_STATE);
         HerbrandTables none = sentence("P&-P");
-        due("13 holds in none", call(() -> none.least()), NO_ELEMENT);
+        due("13 holds in none", least(none), NO_ELEMENT);
         due("13 all false", sentence("P|-Q").least(), 0);
         due("13 the first atom is false rather than the last", sentence("P|Q").least(), 2);
         due("13 of twelve", sentence("Pab|Pbc&Qx|-Pxy").least(), 1056);
@@ -304,9 +287,9 @@ public final class PromiseTests {
 
     private static void promise14Greatest() {
         HerbrandTables t = new HerbrandTables();
-        due("14 no sentence", call(() -> t.greatest()), ILLEGAL_STATE);
+        due("14 no sentence", greatest(t), ILLEGAL_STATE);
         HerbrandTables none = sentence("P&-P");
-        due("14 holds in none", call(() -> none.greatest()), NO_ELEMENT);
+        due("14 holds in none", greatest(none), NO_ELEMENT);
         due("14 all true", sentence("P|-Q").greatest(), 3);
         due("14 the first atom is true rather than the last", sentence("-P|-Q").greatest(), 1);
         due("14 of twelve", sentence("-Pab|-Pbc&-Qx|-Pxx").greatest(), 479);
@@ -314,36 +297,36 @@ public final class PromiseTests {
 
     private static void promise15Forced() {
         HerbrandTables t = new HerbrandTables();
-        due("15 no sentence comes first", call(() -> t.forced(-1)), ILLEGAL_STATE);
+        due("15 no sentence comes first", forced(t, -1), ILLEGAL_STATE);
         HerbrandTables some = sentence("Px&Px|Qa&-Qb");
-        due("15 to be true", call(() -> some.forced(0)), 1);
-        due("15 to be true for the other thing", call(() -> some.forced(1)), 1);
-        due("15 not", call(() -> some.forced(2)), 2);
-        due("15 to be false", call(() -> some.forced(3)), 0);
-        due("15 no atom 4", call(() -> some.forced(4)), OUT_OF_BOUNDS);
-        due("15 no atom -1", call(() -> some.forced(-1)), OUT_OF_BOUNDS);
-        due("15 no least atom", call(() -> some.forced(Integer.MIN_VALUE)), OUT_OF_BOUNDS);
-        due("15 no greatest atom", call(() -> some.forced(Integer.MAX_VALUE)), OUT_OF_BOUNDS);
+        due("15 to be true", forced(some, 0), 1);
+        due("15 to be true for the other thing", forced(some, 1), 1);
+        due("15 not", forced(some, 2), 2);
+        due("15 to be false", forced(some, 3), 0);
+        due("15 no atom 4", forced(some, 4), OUT_OF_BOUNDS);
+        due("15 no atom -1", forced(some, -1), OUT_OF_BOUNDS);
+        due("15 no least atom", forced(some, Integer.MIN_VALUE), OUT_OF_BOUNDS);
+        due("15 no greatest atom", forced(some, Integer.MAX_VALUE), OUT_OF_BOUNDS);
         HerbrandTables none = sentence("P&-P");
-        due("15 holds in none", call(() -> none.forced(0)), NO_ELEMENT);
-        due("15 no such atom comes before that", call(() -> none.forced(1)), OUT_OF_BOUNDS);
+        due("15 holds in none", forced(none, 0), NO_ELEMENT);
+        due("15 no such atom comes before that", forced(none, 1), OUT_OF_BOUNDS);
         HerbrandTables large = sentence("Pxy|-Pxy&Qa&-Pcc&Qb|Qc");
-        due("15 the ninth of twelve", call(() -> large.forced(8)), 0);
-        due("15 the tenth", call(() -> large.forced(9)), 1);
-        due("15 the first", call(() -> large.forced(0)), 2);
+        due("15 the ninth of twelve", forced(large, 8), 0);
+        due("15 the tenth", forced(large, 9), 1);
+        due("15 the first", forced(large, 0), 2);
     }
 
     private static void promise16Without() {
         HerbrandTables t = new HerbrandTables();
-        due("16 no sentence comes first", call(() -> t.without(-1) ? 1 : 0), ILLEGAL_STATE);
+        due("16 no sentence comes first", without(t, -1), ILLEGAL_STATE);
         HerbrandTables some = sentence("P&-P&Q");
-        due("16 the first", call(() -> some.without(0) ? 1 : 0), 1);
-        due("16 the second", call(() -> some.without(1) ? 1 : 0), 1);
-        due("16 the third", call(() -> some.without(2) ? 1 : 0), 0);
-        due("16 no clause 3", call(() -> some.without(3) ? 1 : 0), OUT_OF_BOUNDS);
-        due("16 no clause -1", call(() -> some.without(-1) ? 1 : 0), OUT_OF_BOUNDS);
-        due("16 no clause 32", call(() -> some.without(32) ? 1 : 0), OUT_OF_BOUNDS);
-        due("16 no least clause", call(() -> some.without(Integer.MIN_VALUE) ? 1 : 0), OUT_OF_BOUNDS);
+        due("16 the first", without(some, 0), 1);
+        due("16 the second", without(some, 1), 1);
+        due("16 the third", without(some, 2), 0);
+        due("16 no clause 3", without(some, 3), OUT_OF_BOUNDS);
+        due("16 no clause -1", without(some, -1), OUT_OF_BOUNDS);
+        due("16 no clause 32", without(some, 32), OUT_OF_BOUNDS);
+        due("16 no least clause", without(some, Integer.MIN_VALUE), OUT_OF_BOUNDS);
         due("16 the only one", sentence("P").without(0), 1);
         due("16 the same instance is in another clause", sentence("Px&Pa&-Pa").without(1), 0);
         due("16 the things stay though their clause goes", sentence("Px|Qx&-Px&-Qb&Qa").without(3), 0);
@@ -372,75 +355,5 @@ public final class PromiseTests {
         due("17 the last two of twelve", core(most, 3072), 1);
         due("17 all of twelve", core(most, 4095), 0);
         due("17 a thirteenth", core(most, 4096), OUT_OF_BOUNDS);
-    }
-
-    private static long core(HerbrandTables t, int sum) {
-        return call(() -> t.core(sum) ? 1 : 0);
-    }
-
-    private static HerbrandTables sentence(String text) {
-        HerbrandTables t = new HerbrandTables();
-        type(t, text);
-        t.read();
-        return t;
-    }
-
-    private static long readNew(String text) {
-        HerbrandTables t = new HerbrandTables();
-        type(t, text);
-        return read(t);
-    }
-
-    private static long read(HerbrandTables t) {
-        return call(() -> t.read());
-    }
-
-    private static int faultOf(String text) {
-        HerbrandTables t = new HerbrandTables();
-        type(t, text);
-        long answer = read(t);
-        due("5 read() of " + text + " throws", answer == ILLEGAL_ARGUMENT, t.fault() == -1 ? 0 : 1);
-        return t.fault();
-    }
-
-    private static void type(HerbrandTables t, String text) {
-        for (int from = 0; from < text.length(); from += 8) {
-            due("2 type of " + text, t.type(row(text.substring(from, Math.min(from + 8, text.length())))), 1);
-        }
-    }
-
-    private static long row(String part) {
-        long row = 0;
-        for (int i = 0; i < part.length(); i++) {
-            row |= (long) part.charAt(i) << (8 * i);
-        }
-        return row;
-    }
-
-    private static long call(Call call) {
-        try {
-            return call.answer();
-        } catch (IllegalArgumentException e) {
-            return ILLEGAL_ARGUMENT;
-        } catch (IllegalStateException e) {
-            return ILLEGAL_STATE;
-        } catch (IndexOutOfBoundsException e) {
-            return e.getClass() == IndexOutOfBoundsException.class ? OUT_OF_BOUNDS : OTHER;
-        } catch (NoSuchElementException e) {
-            return NO_ELEMENT;
-        } catch (RuntimeException e) {
-            return OTHER;
-        }
-    }
-
-    private static void due(String what, boolean got, long want) {
-        due(what, got ? 1L : 0L, want);
-    }
-
-    private static void due(String what, long got, long want) {
-        if (got != want) {
-            wrong++;
-            System.out.println("promise " + what + ": answered " + got + ", due is " + want);
-        }
     }
 }
