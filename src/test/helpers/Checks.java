@@ -27,7 +27,7 @@ abstract class Checks {
         checked++;
         if (got != want) {
             wrong++;
-            System.out.println(what + ": answered " + told(got) + ", due is " + told(want));
+            System.out.println(testMethod() + ": " + what + ": answered " + told(got) + ", due is " + told(want));
         }
     }
 
@@ -35,7 +35,7 @@ abstract class Checks {
         checked++;
         if (!got.equals(want)) {
             wrong++;
-            System.out.println(what + ": answered\n    " + got + "\n  due is\n    " + want);
+            System.out.println(testMethod() + ": " + what + ": answered\n    " + got + "\n  due is\n    " + want);
         }
     }
 
@@ -154,6 +154,14 @@ abstract class Checks {
             all.append(' ').append(told(core(t, sum)));
         }
         return all.toString();
+    }
+
+    /** The method that main called: above it stands the sentence of the document that is broken. */
+    private static String testMethod() {
+        return StackWalker.getInstance().walk(frames -> frames
+            .map(StackWalker.StackFrame::getMethodName)
+            .takeWhile(name -> !name.equals("main"))
+            .reduce("", (inner, outer) -> outer));
     }
 
     private static long codeOf(Class<?> kind) {

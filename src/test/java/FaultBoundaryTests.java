@@ -20,6 +20,7 @@ public final class FaultBoundaryTests extends Checks {
         predicateTooManyAtTheEnd();
         predicateTooManyBeforeAWrongCharacter();
         reckonedUpToThere();
+        reckonedInOneTextAlone();
         end();
     }
 
@@ -241,5 +242,23 @@ public final class FaultBoundaryTests extends Checks {
         dueFault("Pxy&Qxy&Rx&Sa|Pbx", NONE);
         dueFault("Pxy&Qab", NONE);
         dueFault("Pxy&Qab&Rc", 9);
+    }
+
+    /** The same, on its other side: predicates and constants of texts before are not reckoned. */
+    private static void reckonedInOneTextAlone() {
+        String[] tooMany = {FULL_OF_ATOMS + "&Sab", "Pxy&Qab&Pcx", FULL_OF_ATOMS + "&Pxc"};
+        for (String text : tooMany) {
+            for (String next : new String[] {"Px", "P&Q", "Sc", FULL_OF_ATOMS, "Rab&Rxc&Sx"}) {
+                HerbrandTables t = typed(text);
+                due("read() of '" + text + "'", read(t), ILLEGAL_ARGUMENT);
+                t.erase();
+                type(t, next);
+                due("read() of '" + next + "' after '" + text + "'", read(t), readNew(next));
+                due("fault of '" + next + "' after '" + text + "'", t.fault(), NONE);
+            }
+        }
+        HerbrandTables t = sentence(FULL_OF_ATOMS);
+        type(t, "Sc");
+        due("read() of 'Sc' after a sentence with 12 atoms", read(t), 1);
     }
 }

@@ -66,6 +66,7 @@ public final class PromiseBoundaryTests extends Checks {
         withoutAClause();
         withoutThrows();
         coreOfClauses();
+        coreWithOneThatIsNotNeeded();
         coreOfNone();
         coreThrows();
         exceptionNamedFirst();
@@ -645,6 +646,21 @@ public final class PromiseBoundaryTests extends Checks {
         due("for a", core(things, 1 + 2 + 8), 1);
         due("for b", core(things, 1 + 4 + 16), 1);
         due("for neither", core(things, 1 + 2 + 4), 0);
+    }
+
+    /** The same sentence, where any one but one could not be left out, wherever that one stands. */
+    private static void coreWithOneThatIsNotNeeded() {
+        String[] needed = CHAIN.replace("&-Sa|Sb&-Sb", "&-Sa").split("&");
+        for (int at = 0; at <= needed.length; at++) {
+            StringBuilder text = new StringBuilder();
+            for (int k = 0; k <= needed.length; k++) {
+                String clause = k == at ? "Sc" : needed[k < at ? k : k - 1];
+                text.append(k == 0 ? "" : "&").append(clause);
+            }
+            HerbrandTables t = sentence(text.toString());
+            due("with Sc, which is clause " + at, core(t, EVERY_CLAUSE), 0);
+            due("without Sc, which is clause " + at, core(t, EVERY_CLAUSE - (1 << at)), 1);
+        }
     }
 
     /** The same sentence, of no clauses: they hold together. */

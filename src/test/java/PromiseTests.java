@@ -170,8 +170,7 @@ public final class PromiseTests extends Checks {
         due("5 the 13th clause", faultOf("P&P&P&P&P&P&P&P&P&P&P&P&P"), 23);
         due("5 12 clauses", faultOf("P&P&P&P&P&P&P&P&P&P&P&P"), -1);
         due("5 the 12th clause's 5th literal", faultOf("P&P&P&P&P&P&P&P&P&P&P&P|P|P|P|P"), 29);
-        due("5 behind 48 literals",
-            faultOf("P|P|P|P&P|P|P|P&P|P|P|P&P|P|P|P&P|P|P|P&P|P|P|P&P|P|P|P&P|P|P|P&P|P|P|P&P|P|P|P&P|P|P|P&P|P|P|P&"), 95);
+        due("5 behind 48 literals", faultOf("P|P|P|P&".repeat(12)), 95);
     }
 
     private static void promise5FaultOfAtoms() {
